@@ -1,21 +1,5 @@
-import java.lang.reflect.InvocationTargetException;
-import java.lang.reflect.Method;
-import java.util.ArrayList;
-import java.util.List;
-
-/**
- * Runs of calls on new objects, at least one for each promise. A run is written as in the
- * document: "append(97) = 1; insert(0) = NONE". Every call that answers an error, and every call
- * that only asks, is also held to change nothing.
- */
-public final class EditTreePromises {
-    private static final List<String> ASKING = List.of("conflictWith", "current", "nodeCount",
-            "lengthOf", "characterOf", "editOf", "parentOf", "childOf", "favouriteOf", "timeOf",
-            "commonAncestor", "distance", "oldestLeaf", "digest");
-    private static final int MIN = Integer.MIN_VALUE;
-    private static final int MAX = Integer.MAX_VALUE;
-    private static int wrong = 0;
-
+/** Runs of calls on new objects, at least one for each promise. */
+public final class EditTreePromises extends CallRuns {
     public static void main(String[] args) {
         constants();
         examples();
@@ -46,10 +30,7 @@ public final class EditTreePromises {
         wrongNodes();
         digest();
         twoObjects();
-        if (wrong > 0) {
-            System.out.println(wrong + " wrong answers");
-            System.exit(1);
-        }
+        end();
     }
 
     // ---- the document's face and examples
@@ -122,10 +103,10 @@ public final class EditTreePromises {
                 + "delete(0, 1) = 8; insert(39) = 9; lengthOf(9) = 40; characterOf(9, 39) = 97;"
                 + "append(98) = 1; insert(0) = TEXT_FULL; undo() = 8; insert(0) = 10;"
                 + "characterOf(10, 0) = 98; lengthOf(10) = 40");
-        run("promise 4, a tree of 24", fullTree() + "nodeCount() = 24; insert(0) = NONE;"
+        run("promise 4, a tree of 24", deepTree() + "nodeCount() = 24; insert(0) = NONE;"
                 + "append(97) = 1; insert(24) = OUT_OF_RANGE; insert(23) = TREE_FULL;"
                 + "insert(0) = TREE_FULL; jump(0) = 23; insert(0) = TREE_FULL; clearClip() = 1");
-        run("promise 4, a text of 40 and a tree of 24", fullTreeWithFullText()
+        run("promise 4, a text of 40 and a tree of 24", fullTextInFullTree()
                 + "append(97) = 1; insert(41) = OUT_OF_RANGE; insert(3) = TEXT_FULL;"
                 + "undo() = 22; insert(39) = TREE_FULL");
     }
@@ -149,7 +130,7 @@ public final class EditTreePromises {
                 + "parentOf(7) = 2; favouriteOf(2) = 7");
         run("promise 5, the clip stays", type("ab") + "insert(0) = 1;" + type("cd")
                 + "delete(0, 1) = 2; clearClip() = 2");
-        run("promise 5, a tree of 24", fullTree() + "delete(23, 1) = OUT_OF_RANGE;"
+        run("promise 5, a tree of 24", deepTree() + "delete(23, 1) = OUT_OF_RANGE;"
                 + "delete(0, 7) = OUT_OF_RANGE; delete(0, 1) = TREE_FULL; delete(17, 6) = TREE_FULL;"
                 + "jump(0) = 23; delete(0, 1) = OUT_OF_RANGE");
     }
@@ -277,7 +258,7 @@ public final class EditTreePromises {
         run("promise 9, conflict before text full", text36() + "delete(1, 1) = 7; delete(0, 2) = 8;"
                 + type("uvwxyz") + "insert(33) = 9;" + type("z") + "insert(39) = 10;"
                 + "undoEdit(7) = CONFLICT; undoEdit(8) = TEXT_FULL; undoEdit(10) = 11");
-        run("promise 9, a tree of 24", fullTree() + "undoEdit(24) = NO_SUCH_NODE;"
+        run("promise 9, a tree of 24", deepTree() + "undoEdit(24) = NO_SUCH_NODE;"
                 + "undoEdit(0) = WRONG_NODE; conflictWith(23) = NONE; undoEdit(23) = TREE_FULL;"
                 + "undo() = 22; undoEdit(23) = WRONG_NODE; undoEdit(22) = TREE_FULL;"
                 + "forget(23) = 23; undoEdit(22) = 24");
@@ -300,7 +281,7 @@ public final class EditTreePromises {
                 + "conflictWith(2) = NONE; conflictWith(4) = WRONG_NODE; conflictWith(6) = NO_SUCH_NODE;"
                 + "jump(1) = 2; conflictWith(1) = NONE; jump(4) = 3; forget(5) = 5;"
                 + "conflictWith(5) = NO_SUCH_NODE");
-        run("promise 10, no room is needed", fullTreeWithFullText() + "conflictWith(23) = NONE;"
+        run("promise 10, no room is needed", fullTextInFullTree() + "conflictWith(23) = NONE;"
                 + "conflictWith(22) = NONE; undoEdit(23) = TREE_FULL; undoEdit(22) = TEXT_FULL");
     }
 
@@ -375,13 +356,13 @@ public final class EditTreePromises {
                 + "favouriteOf(6) = NO_SUCH_NODE");
         run("promise 18, deep below", branches() + "favouriteOf(0) = 5; jump(4) = 4;"
                 + "favouriteOf(0) = 1; favouriteOf(1) = 3; jump(2) = 3; favouriteOf(1) = 2");
-        run("promise 18, a favourite is forgotten", fourChildren() + "jump(2) = 1; undo() = 0;"
+        run("promise 18, a favourite is forgotten", children(4) + "jump(2) = 1; undo() = 0;"
                 + "favouriteOf(0) = 2; forget(2) = 4; favouriteOf(0) = 4; redo() = 4; undo() = 0;"
                 + "forget(1) = 3; favouriteOf(0) = 4; forget(4) = 2; favouriteOf(0) = 3;"
                 + "redo() = 3; undo() = 0; forget(3) = 1; favouriteOf(0) = NONE; redo() = NONE;"
                 + "forget(0) = WRONG_NODE;" + type("z") + "insert(0) = 5; favouriteOf(0) = 5;"
                 + "jump(2) = NO_SUCH_NODE; favouriteOf(2) = NO_SUCH_NODE");
-        run("promise 18, another child is forgotten", fourChildren() + "jump(2) = 1; undo() = 0;"
+        run("promise 18, another child is forgotten", children(4) + "jump(2) = 1; undo() = 0;"
                 + "forget(4) = 4; favouriteOf(0) = 2; forget(3) = 3; favouriteOf(0) = 2");
     }
 
@@ -412,7 +393,7 @@ public final class EditTreePromises {
                 + "distance(6, 0) = NO_SUCH_NODE; distance(0, 6) = NO_SUCH_NODE;"
                 + "distance(-1, 0) = NO_SUCH_NODE; forget(4) = 5; distance(4, 4) = NO_SUCH_NODE;"
                 + "distance(4, 0) = NO_SUCH_NODE; distance(0, 4) = NO_SUCH_NODE");
-        run("promises 20 and 21, a tree of 24", fullTree() + "distance(0, 23) = 23;"
+        run("promises 20 and 21, a tree of 24", deepTree() + "distance(0, 23) = 23;"
                 + "distance(23, 0) = 23; distance(23, 11) = 12; commonAncestor(23, 11) = 11;"
                 + "jump(0) = 23; jump(23) = 23");
     }
@@ -450,7 +431,7 @@ public final class EditTreePromises {
         run("promise 25", "oldestLeaf() = NONE;" + type("a") + "insert(0) = 1; oldestLeaf() = NONE;"
                 + "undo() = 0; oldestLeaf() = 1; redo() = 1; oldestLeaf() = NONE;" + type("b")
                 + "insert(0) = 2; oldestLeaf() = NONE; undo() = 1; oldestLeaf() = 2;");
-        run("promise 25, four leaves", fourChildren() + "oldestLeaf() = 1; jump(1) = 1;"
+        run("promise 25, four leaves", children(4) + "oldestLeaf() = 1; jump(1) = 1;"
                 + "oldestLeaf() = 2; jump(3) = 2; oldestLeaf() = 2; setMark(3, 2) = 1;"
                 + "oldestLeaf() = 4; jump(0) = 1; oldestLeaf() = 4; jump(4) = 1; oldestLeaf() = 1;"
                 + "setMark(0, 1) = 1; oldestLeaf() = 3; setMark(0, 3) = 1; oldestLeaf() = 1;"
@@ -481,7 +462,7 @@ public final class EditTreePromises {
         run("numbers are not given twice", type("a") + "insert(0) = 1; undo() = 0; forget(1) = 1;"
                 + type("b") + "insert(0) = 2; delete(0, 1) = 3; undo() = 2; forget(3) = 2;"
                 + "undoEdit(2) = 4; nodeCount() = 3; jump(3) = NO_SUCH_NODE; jump(1) = NO_SUCH_NODE");
-        run("room after forgetting", fullTree() + "undo() = 22; append(97) = 1; insert(0) = TREE_FULL;"
+        run("room after forgetting", deepTree() + "undo() = 22; append(97) = 1; insert(0) = TREE_FULL;"
                 + "forget(23) = 23; insert(0) = 24; nodeCount() = 24; delete(0, 1) = TREE_FULL;"
                 + "parentOf(24) = 22; childOf(22, 0) = 24; childOf(22, 1) = NONE; lengthOf(24) = 23;"
                 + "lengthOf(23) = NO_SUCH_NODE; jump(23) = NO_SUCH_NODE; jump(0) = 23; redo() = 1");
@@ -546,140 +527,5 @@ public final class EditTreePromises {
             hash = 31 * hash + value;
         }
         return hash;
-    }
-
-    // ---- pieces of runs
-
-    private static String call(String name, int... arguments) {
-        StringBuilder text = new StringBuilder(name).append('(');
-        for (int i = 0; i < arguments.length; i++) {
-            text.append(i == 0 ? "" : ", ").append(arguments[i]);
-        }
-        return text.append(')').toString();
-    }
-
-    private static String type(String characters) {
-        StringBuilder text = new StringBuilder();
-        for (int i = 0; i < characters.length(); i++) {
-            text.append(call("append", characters.charAt(i))).append(" = ").append(i + 1).append(';');
-        }
-        return text.toString();
-    }
-
-    private static String shows(int node, String expected) {
-        StringBuilder text = new StringBuilder();
-        text.append(call("lengthOf", node)).append(" = ").append(expected.length()).append(';');
-        for (int i = 0; i < expected.length(); i++) {
-            text.append(call("characterOf", node, i)).append(" = ").append((int) expected.charAt(i)).append(';');
-        }
-        return text.append(call("characterOf", node, expected.length())).append(" = OUT_OF_RANGE;").toString();
-    }
-
-    /** Insertions of one character in front, for the nodes from first to last. */
-    private static String inserts(int first, int last) {
-        StringBuilder text = new StringBuilder();
-        for (int number = first; number <= last; number++) {
-            text.append("append(105) = 1; insert(0) = ").append(number).append(';');
-        }
-        return text.toString();
-    }
-
-    /** Deletions and insertions in turn, so that the text does not grow. */
-    private static String turns(int first, int last) {
-        StringBuilder text = new StringBuilder();
-        for (int number = first; number <= last; number++) {
-            boolean deletes = (number - first) % 2 == 0;
-            text.append(deletes ? "delete(39, 1) = " : "append(46) = 1; insert(39) = ").append(number).append(';');
-        }
-        return text.toString();
-    }
-
-    private static String fullTree() {
-        return inserts(1, 23);
-    }
-
-    private static String text36() {
-        StringBuilder text = new StringBuilder();
-        for (int number = 1; number <= 6; number++) {
-            text.append(type("abcdef")).append("insert(").append(6 * (number - 1)).append(") = ")
-                    .append(number).append(';');
-        }
-        return text.toString();
-    }
-
-    /** 23 nodes below the root on one path; the last text has 40 characters, the one before 39. */
-    private static String fullTreeWithFullText() {
-        return text36() + type("wxyz") + "insert(36) = 7;" + turns(8, 23)
-                + "nodeCount() = 24; lengthOf(22) = 39; lengthOf(23) = 40;";
-    }
-
-    /** 0 has the children 1 and 5, 1 has 2 and 3, 3 has 4; 5 is current and the clock is at 7. */
-    private static String branches() {
-        return type("a") + "insert(0) = 1;" + type("b") + "insert(0) = 2; undo() = 1;" + type("c")
-                + "insert(0) = 3;" + type("d") + "insert(0) = 4; jump(0) = 3;" + type("e")
-                + "insert(0) = 5; timeOf(5) = 7;";
-    }
-
-    /** The root has the children 1 to 4 and is current. */
-    private static String fourChildren() {
-        StringBuilder text = new StringBuilder();
-        for (int number = 1; number <= 4; number++) {
-            text.append("append(97) = 1; insert(0) = ").append(number).append("; undo() = 0;");
-        }
-        return text.toString();
-    }
-
-    // ---- running
-
-    private static void run(String title, String calls) {
-        EditTree tree = new EditTree();
-        for (String row : calls.split(";")) {
-            if (!row.isBlank()) {
-                answer(title, tree, row.trim());
-            }
-        }
-    }
-
-    private static void answer(String title, EditTree tree, String row) {
-        String[] sides = row.split("=");
-        String called = sides[0].trim();
-        String name = called.substring(0, called.indexOf('('));
-        long before = tree.digest();
-        long got = invoke(tree, name, called.substring(called.indexOf('(') + 1, called.indexOf(')')));
-        due(title + ": " + called, got, expected(sides[1].trim()));
-        boolean error = got < 0 && !name.equals("digest");
-        if (error || ASKING.contains(name)) {
-            due(title + ": the state after " + called, tree.digest(), before);
-        }
-    }
-
-    private static long expected(String text) {
-        List<String> names = List.of("OUT_OF_RANGE", "NO_SUCH_NODE", "TREE_FULL", "TEXT_FULL",
-                "CONFLICT", "WRONG_NODE", "NONE");
-        return names.contains(text) ? -1 - names.indexOf(text) : Long.parseLong(text);
-    }
-
-    private static long invoke(EditTree tree, String name, String list) {
-        List<Object> values = new ArrayList<>();
-        for (String value : list.split(",")) {
-            if (!value.isBlank()) {
-                values.add(Integer.parseInt(value.trim()));
-            }
-        }
-        Class<?>[] types = new Class<?>[values.size()];
-        java.util.Arrays.fill(types, int.class);
-        try {
-            Method method = EditTree.class.getMethod(name, types);
-            return ((Number) method.invoke(tree, values.toArray())).longValue();
-        } catch (NoSuchMethodException | IllegalAccessException | InvocationTargetException e) {
-            throw new IllegalStateException(name + "(" + list + ")", e);
-        }
-    }
-
-    private static void due(String what, long got, long want) {
-        if (got != want) {
-            wrong++;
-            System.out.println(what + " answered " + got + ", due is " + want);
-        }
     }
 }
