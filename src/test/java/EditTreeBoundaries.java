@@ -947,6 +947,8 @@ public final class EditTreeBoundaries extends CallRuns {
 
     private static void promise27Digest() {
         run("promise 27: a new object", "digest() = " + hash(emptyTree(0)));
+        run("promise 27: it may be negative without being an error, and positive", "digest() = -1487855211470520017;"
+                + "append(126) = 1; digest() = 9216720665542534478");
         run("promise 27: the clip, from empty to full", type("abcdef") + "digest() = "
                 + hash(emptyTree(6, 97, 98, 99, 100, 101, 102)) + "; clearClip() = 6; digest() = "
                 + hash(emptyTree(0)) + "; append(126) = 1; digest() = " + hash(emptyTree(1, 126)));
