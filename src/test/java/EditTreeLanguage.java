@@ -26,12 +26,18 @@ public final class EditTreeLanguage {
     private static final String[] FORBIDDEN = {"\\bthrow\\b", "\\bthrows\\b", "\\btry\\b", "\\bcatch\\b",
         "\\bsynchronized\\b", "\\bassert\\b", "->", "::", "\\bimport\\b", "\\bpackage\\b",
         "\\b\\w+Exact\\b", "\\bstatic \\{", "\\bnanoTime\\b", "\\bcurrentTimeMillis\\b"};
+    private static final Set<String> LIBRARY = Set.of("String", "StringBuilder", "ArrayList", "List",
+            "Integer", "Long", "Math", "Iterator", "Iterable", "Comparable", "System", "Arrays", "Override");
+    private static final int PARAMETER_LIMIT = 7;
+    private static final int CLASS_LIMIT = 12;
+    private static final int FIELD_LIMIT = 20;
     private static int wrong = 0;
 
     public static void main(String[] args) throws IOException {
         face();
         constants();
         hiddenMembers();
+        sizes();
         source(Path.of(args.length > 0 ? args[0] : "src/main/java/EditTree.java"));
         if (wrong > 0) {
             System.exit(1);
@@ -96,6 +102,24 @@ public final class EditTreeLanguage {
         noPublicNames(EditTree.class.getDeclaredMethods());
     }
 
+    private static void sizes() {
+        List<Class<?>> classes = new ArrayList<>(Arrays.asList(EditTree.class.getDeclaredClasses()));
+        classes.add(EditTree.class);
+        hold(classes.size() <= CLASS_LIMIT, "at most " + CLASS_LIMIT + " classes");
+        for (Class<?> one : classes) {
+            for (Method method : one.getDeclaredMethods()) {
+                hold(method.getParameterCount() <= PARAMETER_LIMIT, method.getName() + " takes few parameters");
+            }
+            int fields = 0;
+            for (Field field : one.getDeclaredFields()) {
+                boolean shared = Modifier.isStatic(field.getModifiers());
+                hold(!shared || Modifier.isFinal(field.getModifiers()), field.getName() + " is no shared state");
+                fields += shared ? 0 : 1;
+            }
+            hold(fields <= FIELD_LIMIT, one.getName() + " has at most " + FIELD_LIMIT + " fields");
+        }
+    }
+
     private static void noPublicNames(Method[] methods) {
         for (Method method : methods) {
             for (String called : FACE) {
@@ -110,6 +134,15 @@ public final class EditTreeLanguage {
         for (String word : FORBIDDEN) {
             Matcher matcher = Pattern.compile(word).matcher(text);
             hold(!matcher.find(), "the source has " + word);
+        }
+        Set<String> known = new TreeSet<>(LIBRARY);
+        known.add("EditTree");
+        for (Class<?> inside : EditTree.class.getDeclaredClasses()) {
+            known.add(inside.getSimpleName());
+        }
+        Matcher named = Pattern.compile("\\b[A-Z]\\w*[a-z]\\w*").matcher(text);
+        while (named.find()) {
+            hold(known.contains(named.group()), "the source names " + named.group());
         }
     }
 }
